@@ -460,7 +460,8 @@ public final class EarSchool {
                     moved = together(moved, byStep(p, pitch, Rule.FREE, step));
                 }
             }
-            for (int state = 0; state <= Rule.MOST_REPEATS; state++) {
+            // No more repeats than steps can stand behind a position, and no more than may be.
+            for (int state = 0; state <= Math.min(p, rule.repeats); state++) {
                 put(p, pitch, state, together(moved, byStep(p, pitch, state, 0)));
             }
             put(p, pitch, Rule.UP, together(byStep(p, pitch, Rule.UP, -2), byStep(p, pitch, Rule.UP, -1)));
@@ -485,9 +486,6 @@ public final class EarSchool {
         }
 
         long from(int p, int pitch, int state) {
-            if (outside(pitch, rule.low, rule.high)) {
-                return ofNone();
-            }
             int index = index(p, pitch, state);
             return outside(index, 0, worth.length - 1) ? ofNone() : worth[index];
         }
@@ -501,7 +499,10 @@ public final class EarSchool {
 
         /** What all melodies are worth that come to position p in this state and go on to the pitch. */
         long onward(int p, int before, int state, int pitch) {
-            return p == 0 ? from(0, pitch, Rule.FREE) : byStep(p - 1, before, state, pitch - before);
+            if (p > 0) {
+                return byStep(p - 1, before, state, pitch - before);
+            }
+            return outside(pitch, rule.low, rule.high) ? ofNone() : from(0, pitch, Rule.FREE);
         }
 
         int stateAt(int p, int before, int state, int pitch) {
@@ -902,7 +903,11 @@ public final class EarSchool {
             }
             for (int i = meantNotes.size; i >= 0; i--) {
                 for (int j = answer.size; j >= 0; j--) {
-                    fillPlace(i, j);
+                    if (i == meantNotes.size || j == answer.size) {
+                        fillBorder(i, j);
+                    } else {
+                        fillInside(i, j);
+                    }
                 }
             }
             readActs();
@@ -910,30 +915,39 @@ public final class EarSchool {
             standing = true;
         }
 
-        private void fillPlace(int i, int j) {
+        /** Where a row is at its end, one kind of act is left, and the cost is that of any shift. */
+        private void fillBorder(int i, int j) {
+            int start = index(i, j, -OCTAVE);
+            int cost = unshifted(i, j, 0);
+            for (int c = 0; c < SHIFTS && start + c < least.length; c++) {
+                least[start + c] = cost;
+            }
+        }
+
+        private void fillInside(int i, int j) {
+            int start = index(i, j, -OCTAVE);
+            int hit = index(i + 1, j + 1, -OCTAVE);
+            int lost = index(i + 1, j, -OCTAVE);
+            int more = index(i, j + 1, -OCTAVE);
+            int right = answer.pitch[j] - meantNotes.pitch[i] + OCTAVE;
+            int lengthCost = lengthCost(i, j);
+            int moreCost = moreCost(j);
             int best = FAR;
-            for (int c = -OCTAVE; c <= OCTAVE; c++) {
-                int unshifted = unshifted(i, j, c);
-                put(i, j, c, unshifted);
-                best = Math.min(best, unshifted);
+            for (int c = 0; c < SHIFTS && hit + c < least.length; c++) {
+                int cost = least[hit + c] + lengthCost + (c == right ? 0 : PITCH_COST);
+                cost = Math.min(cost, least[lost + c] + COST);
+                cost = Math.min(cost, least[more + c] + moreCost);
+                least[start + c] = cost;
+                best = Math.min(best, cost);
             }
-            if (i >= meantNotes.size) {
-                return;
-            }
-            for (int c = -OCTAVE; c <= OCTAVE; c++) {
-                put(i, j, c, Math.min(from(i, j, c), best + COST));
+            // Where c itself is the best one, staying costs less: that the shift is another needs no test.
+            for (int c = 0; c < SHIFTS && hit + c < least.length; c++) {
+                least[start + c] = Math.min(least[start + c], best + COST);
             }
         }
 
         private int index(int i, int j, int c) {
             return (i * PLACES + j) * SHIFTS + c + OCTAVE;
-        }
-
-        private void put(int i, int j, int c, int value) {
-            int index = index(i, j, c);
-            if (!outside(index, 0, least.length - 1)) {
-                least[index] = value;
-            }
         }
 
         private int from(int i, int j, int c) {
@@ -965,9 +979,11 @@ public final class EarSchool {
         }
 
         private int hitCost(int i, int j, int c) {
-            int wrongPitch = answer.pitch[j] == meantNotes.pitch[i] + c ? 0 : PITCH_COST;
-            int wrongLength = answer.length[j] == meantNotes.length[i] ? 0 : LENGTH_COST;
-            return wrongPitch + wrongLength;
+            return lengthCost(i, j) + (answer.pitch[j] == meantNotes.pitch[i] + c ? 0 : PITCH_COST);
+        }
+
+        private int lengthCost(int i, int j) {
+            return answer.length[j] == meantNotes.length[i] ? 0 : LENGTH_COST;
         }
 
         private int moreCost(int j) {

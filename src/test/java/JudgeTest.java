@@ -85,6 +85,9 @@ public final class JudgeTest {
         judged("13 up is too far", row(60, 62), row(73, 75), 4, 0, 0);
         judged("there and back", row(60, 60, 60, 60), row(60, 65, 65, 60), 4, 0, 0, 0, 0);
         judged("twice", row(60, 62, 60, 62, 60, 62), row(61, 63, 59, 61, 59, 61), 6, 16, 0, 0, 14, 0, 0, 0, 0);
+        judged("12 up, then 1", row(60, 62, 64, 60, 62, 64), row(72, 74, 76, 61, 63, 65), 6, 27, 0, 0, 0, 16, 0, 0, 0);
+        judged("12 down, then 0", row(60, 62, 64, 65, 60), row(48, 50, 52, 53, 60), 5, 3, 0, 0, 0, 0, 0);
+        judged("12 down, then -1", row(60, 62, 64, 60, 62, 64), row(48, 50, 52, 59, 61, 63), 6, 3, 0, 0, 0, 14, 0, 0, 0);
         judged("a wrong one, then shifted", row(60, 62, 60, 62, 60), row(65, 57, 55, 57, 55), 5, 0, 10, 0, 0, 0, 0);
         // where meant is at its end, no shift helps: 60 is wrong, the rest is more
         judged("meant at its end", row(60), row(61, 61, 62), 2 + 1 + 3, 0, 2, 2);
