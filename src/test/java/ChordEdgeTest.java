@@ -129,25 +129,13 @@ public final class ChordEdgeTest {
         Run x = promise(17, "each from its voice's LOWEST (0 .. 116");
         int[] first = {48, 55, 64};
         for (int way = 0; way < 3; way++) {
-            x.refused(BAD, "voice", way, -1);
-            x.due(first[way], "voice", way, 0);
-            x.due(0, "voice", way, 1);
-            x.due(1, "voice", way, 115);
-            x.due(115, "voice", way, 116);
-            x.refused(BAD, "voice", way, 117);
-            x.due(116, "voice", way, first[way]);
+            x.setFrom(0, 116, first[way], "voice", way);
         }
     }
 
     private static void voiceMost() {
         Run x = promise(17, "MOST (0 .. 12");
-        x.refused(BAD, "voice", 3, -1);
-        x.due(5, "voice", 3, 0);
-        x.due(0, "voice", 3, 1);
-        x.due(1, "voice", 3, 11);
-        x.due(11, "voice", 3, 12);
-        x.refused(BAD, "voice", 3, 13);
-        x.due(12, "voice", 3, 12);
+        x.setFrom(0, 12, 5, "voice", 3);
     }
 
     private static void voiceWay() {

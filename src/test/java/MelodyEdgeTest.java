@@ -109,26 +109,13 @@ public final class MelodyEdgeTest {
         Run x = promise(6, "SCALE, BEGIN, END (12 bits each: bit c for CLASS c)");
         int[] first = {2741, 4095, 1};
         for (int way = 0; way < 3; way++) {
-            x.refused(BAD, "bits", way, -1);
-            x.due(first[way], "bits", way, 0);
-            x.due(0, "bits", way, 1);
-            x.due(1, "bits", way, 4094);
-            x.due(4094, "bits", way, 4095);
-            x.refused(BAD, "bits", way, 4096);
-            x.due(4095, "bits", way, first[way]);
+            x.setFrom(0, 4095, first[way], "bits", way);
         }
     }
 
     private static void bitsOfSteps() {
         Run x = promise(6, "STEPS (25 bits");
-        x.refused(BAD, "bits", 3, -1);
-        x.due(1023 * 256, "bits", 3, 0);
-        x.due(0, "bits", 3, 1);
-        x.due(1, "bits", 3, 4096);
-        x.due(4096, "bits", 3, ALL_STEPS - 1);
-        x.due(ALL_STEPS - 1, "bits", 3, ALL_STEPS);
-        x.refused(BAD, "bits", 3, ALL_STEPS + 1);
-        x.due(ALL_STEPS, "bits", 3, ALL_STEPS);
+        x.setFrom(0, ALL_STEPS, 1023 * 256, "bits", 3);
     }
 
     private static void bitsWay() {
@@ -207,24 +194,12 @@ public final class MelodyEdgeTest {
 
     private static void boundLeap() {
         Run x = promise(7, "LEAP l (1 .. 13)");
-        x.refused(BAD, "bound", 0, 0);
-        x.due(5, "bound", 0, 1);
-        x.due(1, "bound", 0, 2);
-        x.due(2, "bound", 0, 12);
-        x.due(12, "bound", 0, 13);
-        x.refused(BAD, "bound", 0, 14);
-        x.due(13, "bound", 0, 13);
+        x.setFrom(1, 13, 5, "bound", 0);
     }
 
     private static void boundRepeats() {
         Run x = promise(7, "REPEATS r (0 .. 15)");
-        x.refused(BAD, "bound", 1, -1);
-        x.due(1, "bound", 1, 0);
-        x.due(0, "bound", 1, 1);
-        x.due(1, "bound", 1, 14);
-        x.due(14, "bound", 1, 15);
-        x.refused(BAD, "bound", 1, 16);
-        x.due(15, "bound", 1, 15);
+        x.setFrom(0, 15, 1, "bound", 1);
     }
 
     private static void boundWay() {

@@ -15,6 +15,7 @@ public final class PupilEdgeTest {
         tableSize();
         tableWhat();
         weightIsCut();
+        upToTheLastCall();
         drillPupil();
         drillOfOnePitchAndSixteen();
         drillOfNone();
@@ -204,6 +205,22 @@ public final class PupilEdgeTest {
         x.due(7, "table", 2, 2, WEIGHT);
         learn(x, 3, 2, row(60, 62, 64), row(60));
         x.due(11, "table", 3, 2, WEIGHT);
+    }
+
+    private static void upToTheLastCall() {
+        Run x = promise(24, "An object is used for at most 512 calls after it has been made");
+        int[] longest = new int[24];
+        for (int i = 0; i < 24; i++) {
+            longest[i] = 60 + i % 2;
+        }
+        x.mean(24, longest);
+        x.ask("drop");
+        x.ask("judge");
+        for (int call = 29; call < 510; call++) {
+            x.due(23, "learn", 0);
+        }
+        tables(x, 0, 1, 481 * 23, 481 * 23);
+        x.due(11, "table", 0, 1, WEIGHT);
     }
 
     private static void drillPupil() {

@@ -17,6 +17,7 @@ public final class RowEdgeTest {
         atWhat();
         countWhat();
         countOfActs();
+        countOfMost();
         check.finish();
     }
 
@@ -202,5 +203,30 @@ public final class RowEdgeTest {
         x.due(1, "count", 2);
         x.ask("meant");
         x.due(NONE, "count", 2);
+    }
+
+    private static void countOfMost() {
+        Run x = promise(26, "0 NOTES of THE ROW, 1 of MEANT, 2 ACTS, 3 MASKS, 4 how many of SOME, 5 n");
+        for (int i = 1; i <= 24; i++) {
+            x.ask("note", 60, i);
+        }
+        x.ask("meant");
+        x.ask("judge");
+        for (int i = 1; i <= 6; i++) {
+            x.ask("mask", i);
+            x.ask("some", i, 1);
+        }
+        x.ask("range", 60, 60, 16);
+        int[] most = {24, 24, 24, 6, 6, 16};
+        for (int what = 0; what < 6; what++) {
+            x.due(most[what], "count", what);
+        }
+        x.ask("note", 60, 24);
+        x.ask("mask", 1);
+        x.ask("some", 7, 1);
+        x.ask("range", 60, 60, 17);
+        for (int what = 0; what < 6; what++) {
+            x.due(most[what], "count", what);
+        }
     }
 }

@@ -136,6 +136,17 @@ final class Run {
                 found == wanted);
     }
 
+    /** A number that is set and answers what it was: refused just outside its bounds, taken at and inside them. */
+    void setFrom(int least, int most, int first, String name, int way) {
+        refused(EarSchool.BAD, name, way, least - 1);
+        due(first, name, way, least);
+        due(least, name, way, least + 1);
+        due(least + 1, name, way, most - 1);
+        due(most - 1, name, way, most);
+        refused(EarSchool.BAD, name, way, most + 1);
+        due(most, name, way, first);
+    }
+
     /** Every pitch of the range and every step may stand in a melody. */
     void freeMelodies(int low, int high, int n) {
         ask("range", low, high, n);
