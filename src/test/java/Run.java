@@ -30,7 +30,7 @@ final class Run {
         this(check, "promise " + promise + ", \"" + words + "\"");
     }
 
-    private Run(Check check, String sentence) {
+    Run(Check check, String sentence) {
         this.check = check;
         this.sentence = sentence;
     }
